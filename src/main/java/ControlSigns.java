@@ -377,6 +377,13 @@ public final class ControlSigns {
         return isWithin(v, -COEFFICIENT_LIMIT, COEFFICIENT_LIMIT);
     }
 
+    private static int signOf(long number) {
+        if (number == 0) {
+            return 0;
+        }
+        return number > 0 ? 1 : -1;
+    }
+
     /** The upper (what = 0) or the lower number of a fraction in least terms; lower is above 0. */
     private static long part(long upper, long lower, int what) {
         long divisor = commonDivisor(Math.abs(upper), lower);
@@ -926,16 +933,16 @@ public final class ControlSigns {
         }
 
         int signAtLow() {
-            return Long.signum(number(0));
+            return signOf(number(0));
         }
 
         int signAtHigh() {
-            return Long.signum(number(top));
+            return signOf(number(top));
         }
 
         boolean allHave(int sign) {
             for (int i = 0; i <= top; i++) {
-                if (Long.signum(number(i)) != sign) {
+                if (signOf(number(i)) != sign) {
                     return false;
                 }
             }
@@ -947,7 +954,7 @@ public final class ControlSigns {
             int changes = 0;
             int before = 0;
             for (int i = 0; i <= top; i++) {
-                int sign = Long.signum(number(i));
+                int sign = signOf(number(i));
                 if (sign != 0) {
                     if (before != 0 && sign != before) {
                         changes++;
@@ -1267,7 +1274,7 @@ public final class ControlSigns {
         /** Whether by a POLYNOMIAL all that was SEEN is so. */
         boolean fit(Told told, int p) {
             for (int k = 0; k < size && k < MOST_SEEN; k++) {
-                if (Integer.signum(told.at(p, places[k])) != signs[k]) {
+                if (signOf(told.at(p, places[k])) != signs[k]) {
                     return false;
                 }
             }

@@ -278,10 +278,13 @@ public final class PromiseTest {
         write(x, "p1 2");
         due("a fault", -14, x.house());
         x.clear();
-        write(x, "p-5 ;");
+        write(x, "p-");
+        due("a fault behind -", -12, x.house());
+        x.clear();
+        write(x, "p5 ;");
         due("a fault leaves no trace", 1, x.house());
         due("n", 0, x.count(4));
-        due("coef", -5, x.coef(0, 0));
+        due("coef", 5, x.coef(0, 0));
         due("the empty text tells nothing", 0, x.house());
         due("no polynomials", 0, x.count(0));
         due("no boxes", 0, x.count(1));
@@ -501,6 +504,7 @@ public final class PromiseTest {
             () -> x.end(1, 0, 2), () -> x.end(1, 0, -1), () -> x.end(LEAST, 0, 0), () -> x.end(MOST, 0, 0));
         ControlSigns y = told("p1;");
         due("no box", NO, y.end(1, 0, 0));
+        due("no polynomial: STATE for all that hangs on what is taken", NO, told("b0 1;").end(1, 0, 0));
     }
 
     private static void value() {
