@@ -10,6 +10,7 @@ public final class ControlEdgeTest extends Edges {
         controlNodes();
         controlRaised();
         controlIndex();
+        controlOfPowers();
         controlWhat();
         controlState();
         controlLargest();
@@ -92,6 +93,31 @@ public final class ControlEdgeTest extends Edges {
         ControlSigns x = sizes(0);
         for (int i = 0; i <= 2; i++) {
             due("a number alone stays it, " + i, 3, x.control(77, 2, i, 0));
+        }
+    }
+
+    private static long over(int n, int k) {
+        long ways = 1;
+        for (int j = 1; j <= k; j++) {
+            ways = ways * (n - k + j) / j;
+        }
+        return n < k ? 0 : ways;
+    }
+
+    /** Over 0 to 1 the row of x to the power of k is (i over k) by (N over k). */
+    private static void controlOfPowers() {
+        by("with N being n and r, the numbers c 0 .. c N: of each n (0 .. 5), each r (0 .. 2), each i");
+        for (int n = 0; n <= 5; n++) {
+            for (int k = 0; k <= n; k++) {
+                ControlSigns x = told("p" + " 0".repeat(k) + " 1" + " 0".repeat(n - k) + ";b0 1;");
+                for (int r = 0; r <= 2; r++) {
+                    for (int i = 0; i <= n + r; i++) {
+                        long common = BigInteger.valueOf(over(i, k)).gcd(BigInteger.valueOf(over(n + r, k))).longValue();
+                        dueParts("n " + n + ", power " + k + ", control(1, " + r + ", " + i + ")", over(i, k) / common,
+                            over(n + r, k) / common, x.control(1, r, i, 0), x.control(1, r, i, 1));
+                    }
+                }
+            }
         }
     }
 
@@ -309,7 +335,11 @@ public final class ControlEdgeTest extends Edges {
         dueText("a middle that is no root", "2/0 3/0", bracketsOf(told("p-1 0 1;b-2 2;")));
         dueText("two that are no roots", "", bracketsOf(told("p1-3 3;b0 1;")));
         dueText("a middle of a middle", "2/1 3/1", bracketsOf(told("p1 0-2 0 1;b-2 2;")));
-        dueText("below the middle", "1/1 3/0", bracketsOf(told("p6-5 1;b0 4;")));
+        dueText("the middle and above it", "1/1 3/0", bracketsOf(told("p6-5 1;b0 4;")));
+        dueText("a root below the BOX does not count", "1/1 3/0", bracketsOf(told("p6 1-4 1;b0 4;")));
+        dueText("a root above the BOX does not count", "1/1 3/0", bracketsOf(told("p-30 31-10 1;b0 4;")));
+        dueText("roots below and above the BOX alone", "", bracketsOf(told("p-5-4 1;b0 4;")));
+        dueText("roots at both ends do not count", "", bracketsOf(told("p0-4 1;b0 4;")));
         due("VARIATION is 2 there", 2, told("p6-5 1;b0 4;").variation(1, 0));
     }
 

@@ -31,6 +31,7 @@ public final class PaperEdgeTest extends Edges {
         provesStays();
         provesState();
         narrowed();
+        narrowedInTurn();
         narrowedTies();
         narrowedEnds();
         narrowedRefused();
@@ -323,9 +324,29 @@ public final class PaperEdgeTest extends Edges {
         y.takes(1, 0);
         due("at LO, LOWER", -5, y.narrowed(7, 0, 0));
         due("at LO, UPPER", -5, y.narrowed(7, 1, 0));
+        due("at LO, once, LOWER", -5, y.narrowed(1, 0, 0));
+        due("at LO, once, UPPER", -5, y.narrowed(1, 1, 0));
         y.takes(2, 0);
         due("at HI, LOWER", -5, y.narrowed(7, 0, 0));
         due("at HI, UPPER", -5, y.narrowed(7, 1, 0));
+        due("at HI, once, LOWER", -5, y.narrowed(1, 0, 0));
+        due("at HI, once, UPPER", -5, y.narrowed(1, 1, 0));
+        due("at HI of a NODE that is not halved, UPPER", -2, told("p1-7 5-1;b0 3;").narrowed(2, 1, 0));
+    }
+
+    /** Two places lie equally low, so that halves of both are put in turn; the eleventh time is the last. */
+    private static void narrowedInTurn() {
+        by("NARROWED n times: of all NODES the one with the least CONTROL is put by its halves");
+        long[][] lowers = {{-18, 1}, {-4, 1}, {-4, 1}, {-5, 2}, {-5, 2}, {-55, 24}, {-55, 24}, {-289, 128}, {-289, 128},
+            {-1153, 512}, {-1153, 512}, {-36871, 16384}};
+        long[][] uppers = {{10, 1}, {-2, 1}, {-2, 1}, {-2, 1}, {-35, 16}, {-35, 16}, {-575, 256}, {-575, 256}, {-575, 256},
+            {-575, 256}, {-147407, 65536}, {-147407, 65536}};
+        ControlSigns x = told("p-2 0-1 0 1;b-2 2;");
+        for (int n = 0; n <= 20; n++) {
+            int times = Math.min(n, 11);
+            dueParts(n + " times, LOWER", lowers[times][0], lowers[times][1], x.narrowed(n, 0, 0), x.narrowed(n, 0, 1));
+            dueParts(n + " times, UPPER", uppers[times][0], uppers[times][1], x.narrowed(n, 1, 0), x.narrowed(n, 1, 1));
+        }
     }
 
     private static void narrowedTies() {

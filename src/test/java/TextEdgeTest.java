@@ -108,6 +108,16 @@ public final class TextEdgeTest extends Edges {
         write(x, "b0 1;");
         due("house(): the p is gone", 1, x.house());
         due("clear() behind house()", 0, x.clear());
+        write(x, "p1234;");
+        x.clear();
+        write(x, "p1");
+        due("house() of p1: the old figures are gone", -10 - 2, x.house());
+        x.clear();
+        write(x, "p1 23;");
+        x.house();
+        write(x, "p1");
+        due("house() of p1 behind house(): the old letters are gone", -10 - 2, x.house());
+        x.clear();
         due("clear() of 120 letters", 120, full().clear());
 
         by("Promise 3: THE TEXT is empty, and nothing else changes");
