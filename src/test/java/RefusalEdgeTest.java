@@ -20,6 +20,7 @@ public final class RefusalEdgeTest extends Edges {
         nothingTaken();
         questionsChangeNothing();
         objectsApart();
+        anyNumbers();
         manyLetters();
         manyTexts();
         manyChanges();
@@ -211,6 +212,78 @@ public final class RefusalEdgeTest extends Edges {
         y.clear();
         y.house();
         dueSame("behind calls of another object", rich(), x);
+    }
+
+    // ---- any numbers
+
+    private static final int[] ANY = {LEAST, LEAST + 1, -65536, -257, -51, -6, -2, -1, 0, 1, 2, 3, 5, 6, 7, 8, 20, 21, 50, 51, 63, 64,
+        127, 128, 255, 256, 65536, 1 << 30, MOST - 1, MOST};
+
+    /** All of ANY in each place of a call; what is asked twice is answered twice the same. */
+    private static void answersAny(String name, int places, Maker maker, Numbers call) {
+        int all = 1;
+        for (int j = 0; j < places; j++) {
+            all *= ANY.length;
+        }
+        ControlSigns x = maker.made();
+        int calls = 400;
+        int answered = 0;
+        for (int k = 0; k < all; k++) {
+            int[] a = new int[places];
+            int rest = k;
+            for (int j = 0; j < places; j++) {
+                a[j] = ANY[rest % ANY.length];
+                rest /= ANY.length;
+            }
+            if (calls >= 400) {
+                x = maker.made();
+                calls = 100;
+            }
+            calls += 2;
+            long first = call.on(x, a);
+            long second = call.on(x, a);
+            answered++;
+            if (first != second) {
+                due(told(name, a) + ", asked again", first, second);
+            }
+        }
+        due(name + ": how many calls were answered", all, answered);
+    }
+
+    private static void anyNumbers() {
+        by("No call throws, whatever the numbers are: what is asked is answered");
+        Maker[] makers = {ControlSigns::new, () -> told("p1 2 3 4 5 6;"), () -> told("b0 1;"), () -> told("p38 45 0 37 45-1;b-1 5;")};
+        for (Maker maker : makers) {
+            answersAny("coef", 2, maker, (x, a) -> x.coef(a[0], a[1]));
+            answersAny("box", 2, maker, (x, a) -> x.box(a[0], a[1]));
+            answersAny("variation", 2, maker, (x, a) -> x.variation(a[0], a[1]));
+            answersAny("end", 3, maker, (x, a) -> x.end(a[0], a[1], a[2]));
+            answersAny("value", 3, maker, (x, a) -> x.value(a[0], a[1], a[2]));
+            answersAny("control", 4, maker, (x, a) -> x.control(a[0], a[1], a[2], a[3]));
+            answersAny("bracket", 2, maker, (x, a) -> x.bracket(a[0], a[1]));
+            answersAny("paper", 1, maker, (x, a) -> x.paper(a[0]));
+            answersAny("witness", 1, maker, (x, a) -> x.witness(a[0]));
+            answersAny("narrowed", 3, maker, (x, a) -> x.narrowed(a[0], a[1], a[2]));
+            answersAny("sure", 1, maker, (x, a) -> x.sure(a[0]));
+            answersAny("wish", 1, maker, (x, a) -> x.wish(a[0]));
+            answersAny("count", 1, maker, (x, a) -> x.count(a[0]));
+        }
+        by("No call throws, whatever the numbers are: orders");
+        for (Maker maker : new Maker[] {ControlSigns::new, () -> told("p1 2 3 4 5 6;"), () -> told("b0 1;"), Edges::rich}) {
+            orderAny("type", 1, maker, (x, a) -> x.type(a[0]));
+            orderAny("takes", 2, maker, (x, a) -> x.takes(a[0], a[1]));
+            orderAny("coefs", 3, maker, (x, a) -> x.coefs(a[0], a[1], a[2]));
+            orderAny("ends", 3, maker, (x, a) -> x.ends(a[0], a[1], a[2]));
+            orderAny("wishes", 2, maker, (x, a) -> x.wishes(a[0], a[1]));
+            orderAny("sees", 2, maker, (x, a) -> x.sees(a[0], a[1]));
+            orderAny("keep", 1, maker, (x, a) -> x.keep(a[0]));
+            orderAny("back", 1, maker, (x, a) -> x.back(a[0]));
+        }
+    }
+
+    /** An order that was carried out or found so answers otherwise the second time; one that is BAD stays so. */
+    private static void orderAny(String name, int places, Maker maker, Numbers call) {
+        answersAny(name, places, maker, (x, a) -> call.on(x, a) == BAD ? BAD : 0);
     }
 
     // ---- 512 calls

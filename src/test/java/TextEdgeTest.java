@@ -472,6 +472,14 @@ public final class TextEdgeTest extends Edges {
         due("back(0)", STATE, y.back(0));
         due("back(1)", STATE, y.back(1));
 
+        by("THE TEXT tells all anew: nothing of before can be UNDONE");
+        due("what may be UNDONE", 0, y.count(7));
+        due("undo()", STATE, y.undo());
+        due("wish(0)", 0, y.wish(0));
+        due("what was DONE since", 1, y.coefs(0, 0, 9));
+        due("undo()", 0, y.undo());
+        due("coef(0, 0)", -1, y.coef(0, 0));
+
         by("Read anew, by a text without ITEMS: nothing is there");
         due("house()", 0, y.house());
         due("POLYNOMIALS", 0, y.count(0));
